@@ -1,0 +1,147 @@
+import java.lang.reflect.InvocationTargetException;
+import java.lang.reflect.Method;
+import java.util.Arrays;
+import java.util.Comparator;
+
+/** What the tests share: comparing answers, typing texts, and running test methods by name. */
+final class Check {
+    /** A call of the face; a boolean counts 1 or 0. */
+    interface Call {
+        long answer();
+    }
+
+    private static int faults = 0;
+    private static String current = "";
+
+    private Check() {
+    }
+
+    static void due(String what, long got, long want) {
+        if (got != want) {
+            faults++;
+            System.out.println(current + ": " + what + " answered " + got + ", due is " + want);
+        }
+    }
+
+    static void due(String what, boolean got, boolean want) {
+        due(what, got ? 1 : 0, want ? 1 : 0);
+    }
+
+    static void dueText(String what, String got, String want) {
+        if (!got.equals(want)) {
+            faults++;
+            System.out.println(current + ": " + what + " answered " + got + ", due is " + want);
+        }
+    }
+
+    static void throwsOut(String what, Class<? extends RuntimeException> want, Call call) {
+        dueText(what, outcome(call), "throws." + want.getSimpleName());
+    }
+
+    static String outcome(Call call) {
+        try {
+            return String.valueOf(call.answer());
+        } catch (RuntimeException e) {
+            return "throws." + e.getClass().getSimpleName();
+        }
+    }
+
+    /** Types a text of any length up to the buffer's, eight characters a call. */
+    static void type(RevisionVault vault, String text) {
+        for (int from = 0; from < text.length(); from += 8) {
+            due("type", vault.type(pack(text.substring(from, Math.min(from + 8, text.length())))),
+                    true);
+        }
+    }
+
+    static long pack(String upToEight) {
+        long eight = 0;
+        for (int k = 0; k < upToEight.length(); k++) {
+            eight = eight << 8 | upToEight.charAt(k);
+        }
+        return eight;
+    }
+
+    static int append(RevisionVault vault, int r, String text, int p1, int p2) {
+        vault.wipe();
+        type(vault, text);
+        return vault.append(r, p1, p2);
+    }
+
+    /** A vault whose repository r has these texts, each the first parent of the next, committed. */
+    static RevisionVault vaultWith(int r, String... texts) {
+        RevisionVault vault = new RevisionVault();
+        due("begin", vault.begin(r), 0);
+        for (int n = 0; n < texts.length; n++) {
+            due("append", append(vault, r, texts[n], n - 1, -1), n);
+        }
+        due("commit", vault.commit(r), 0);
+        vault.wipe();
+        return vault;
+    }
+
+    static String textOf(RevisionVault vault, int r, int n) {
+        StringBuilder text = new StringBuilder();
+        int length = vault.record(r, n, 2);
+        for (int k = 0; k < length; k++) {
+            text.append((char) vault.text(r, n, k));
+        }
+        return text.toString();
+    }
+
+    static String chunkOf(RevisionVault vault, int r, int n) {
+        StringBuilder chunk = new StringBuilder();
+        int offset = vault.record(r, n, 0);
+        for (int k = 0; k < vault.record(r, n, 1); k++) {
+            chunk.append((char) vault.data(r, offset + k));
+        }
+        return chunk.toString();
+    }
+
+    /** All that the questions tell of a repository, for "changes nothing". */
+    static String stateOf(RevisionVault vault, int r) {
+        StringBuilder state = new StringBuilder();
+        int revisions = vault.revisions(r);
+        state.append(revisions).append(':');
+        for (int n = 0; n < revisions; n++) {
+            for (int field = 0; field < 6; field++) {
+                state.append(vault.record(r, n, field)).append(',');
+            }
+            state.append(vault.node(r, n)).append(';');
+        }
+        for (int k = -1; k < vault.data(r, -1); k++) {
+            state.append(vault.data(r, k)).append(' ');
+        }
+        return state.toString();
+    }
+
+    /** Runs every static method whose name begins with the prefix; ends the program. */
+    static void runAll(Class<?> tests, String prefix) {
+        Method[] methods = tests.getDeclaredMethods();
+        Arrays.sort(methods, Comparator.comparing(Method::getName));
+        int ran = 0;
+        for (Method method : methods) {
+            if (method.getName().startsWith(prefix) && method.getParameterCount() == 0) {
+                current = method.getName();
+                runOne(method);
+                ran++;
+            }
+        }
+        System.out.println(tests.getName() + ": " + ran + " tests, " + faults + " wrong answers");
+        System.exit(faults == 0 && ran > 0 ? 0 : 1);
+    }
+
+    private static void runOne(Method method) {
+        try {
+            method.setAccessible(true);
+            method.invoke(null);
+        } catch (InvocationTargetException e) {
+            faults++;
+            System.out.println(current + ": " + e.getCause());
+            e.getCause().printStackTrace(System.out);
+        } catch (IllegalAccessException e) {
+            faults++;
+            System.out.println(current + ": " + e);
+        }
+    }
+}
