@@ -12,6 +12,9 @@ public final class RevisionVault {
     private static final int RECORD_LIMIT = 24;
     private static final int DATA_LIMIT = 600;
     private static final int CHAIN_LIMIT = 6;
+    private static final int CHAIN_BYTES_A_CHARACTER = 2;
+    private static final int CHAIN_BYTES_BESIDE = 16;
+    private static final int CANDIDATES = 3;
     private static final int FAILURE_LIMIT = 100;
     private static final int ROLLBACK_WRITES = 3;
     // The longest chunk that is tried: a packed text in which no two neighbours are alike.
@@ -307,7 +310,12 @@ public final class RevisionVault {
         }
 
         boolean addPart(Row source, int from, int count) {
-            return replace(length, length, source, from, count);
+            if (!hasRoomFor(count) || from < 0 || count > source.length - from) {
+                return false;
+            }
+            System.arraycopy(source.codes, from, codes, length, count);
+            length += count;
+            return true;
         }
 
         /** Puts a part of another row in the place of the codes begin .. end - 1. */
@@ -659,7 +667,7 @@ public final class RevisionVault {
                 chunk.become(trial);
             }
             int base = NONE;
-            for (int turn = 0; turn < 3; turn++) {
+            for (int turn = 0; turn < CANDIDATES; turn++) {
                 int candidate = turn == 0 ? p1 : turn == 1 ? p2 : recordCount - 1;
                 if (candidate != NONE && build(candidate)) {
                     Coding.writeDifference(built, text, trial);
@@ -682,7 +690,8 @@ public final class RevisionVault {
                 bytes += records[at].size;
                 at = records[at].base;
             }
-            return at == NONE && bytes <= 2 * textLength + 16;
+            return at == NONE
+                    && bytes <= CHAIN_BYTES_A_CHARACTER * textLength + CHAIN_BYTES_BESIDE;
         }
 
         /** Puts the text of a revision into built; false when it is WRONG. */

@@ -304,6 +304,8 @@ final class PromiseTest {
         Check.due("the latest has the least", vault.record(0, 6, 3), 5);
         Check.append(vault, 0, "abcdefghij227", 5, 6);
         Check.due("p1 before the latest", vault.record(0, 7, 3), 5);
+        Check.append(vault, 0, "abcdefghij226", 2, 6);
+        Check.due("p2 before the latest", vault.record(0, 8, 3), 6);
     }
 
     static void promise05AppendKeepsChainsToSix() {
@@ -1126,6 +1128,8 @@ final class PromiseTest {
         put(vault, 1, 56);
         put(vault, 14, 61);
         Check.due("61 on the way", vault.wrong(0), 3);
+        put(vault, 14, 56);
+        Check.due("61 on the way, not passed over", vault.wrong(0), 3);
     }
 
     static void promise17WrongDifferences() {

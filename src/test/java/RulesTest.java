@@ -11,7 +11,7 @@ final class RulesTest {
     private static final int LONGEST_METHOD = 60;
     private static final String[] FORBIDDEN = {"->", "::", "\\bfinally\\b", "\\bsynchronized\\b",
         "\\bassert\\b", "\\bstatic\\s*\\{", "\\bpackage\\b", "\\bvar\\b", "\\bthrow e\\b",
-        "getMessage", "\\bhashCode\\b", "\\btoString\\b", "Exact\\(", "\\bextends\\b", "@Override"};
+        "getMessage", "\\bhashCode\\b", "\\btoString\\b", "Exact\\("};
     private static final Pattern IMPORT = Pattern.compile("^import (.*);$");
     private static final Pattern THROWN = Pattern.compile("throw new (\\w+)\\(\\)");
 
