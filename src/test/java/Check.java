@@ -10,6 +10,8 @@ final class Check {
         long answer();
     }
 
+    static final String LETTERS = "abcdefghijklmnopqrstuvwxyzABCDEFGHIJKLMNOPQRSTUVWXYZ01234567";
+
     private static int faults = 0;
     private static String current = "";
 
@@ -78,6 +80,61 @@ final class Check {
         due("commit", vault.commit(r), 0);
         vault.wipe();
         return vault;
+    }
+
+    /** A vault whose repository 0 is DOWN, with a journal and one revision "ab". */
+    static RevisionVault vaultDown() {
+        RevisionVault vault = vaultWith(0, "ab");
+        vault.begin(0);
+        vault.fail(0, 1);
+        due("commit that fails", vault.commit(0), -2);
+        return vault;
+    }
+
+    /** DATA of r has so many bytes, in whole texts, none a base for another; a journal is open. */
+    static RevisionVault vaultFilled(int r, int bytes) {
+        RevisionVault vault = new RevisionVault();
+        vault.begin(r);
+        int left = bytes;
+        for (int n = 0; left > 0; n++) {
+            String text = turned(n).substring(0, Math.min(60, left - 1));
+            due("append", append(vault, r, text, -1, -1), n);
+            left -= text.length() + 1;
+        }
+        due("bytes", vault.data(r, -1), bytes);
+        return vault;
+    }
+
+    /** The letters from another one on: no two of these have a beginning or an end in common. */
+    static String turned(int n) {
+        return LETTERS.substring(n * 5) + LETTERS.substring(0, n * 5);
+    }
+
+    static String repeat(char c, int count) {
+        return String.valueOf(c).repeat(count);
+    }
+
+    static String bytes(int... codes) {
+        StringBuilder text = new StringBuilder();
+        for (int code : codes) {
+            text.append((char) code);
+        }
+        return text.toString();
+    }
+
+    /** What the buffer holds, seen by appending it in repository 1, which is rolled back. */
+    static String bufferOf(RevisionVault vault) {
+        vault.begin(1);
+        int n = vault.append(1, -1, -1);
+        String text = textOf(vault, 1, n);
+        vault.abort(1);
+        return text;
+    }
+
+    /** Damages byte k of repository 0 so that it becomes the value. */
+    static void put(RevisionVault vault, int k, int value) {
+        int x = vault.data(0, k) ^ value;
+        due("damage", x == 0 || vault.damage(0, k, x), true);
     }
 
     static String textOf(RevisionVault vault, int r, int n) {

@@ -4,8 +4,8 @@ import java.util.List;
 import java.util.Set;
 
 /**
- * The document told a second time, as plainly as the Java library allows: texts and DATA are Strings,
- * a failing WRITE is an exception, and a call that throws gets a copy of the state back.
+ * The document told a second time, as plainly as the Java library allows: texts and DATA are
+ * Strings, a failing WRITE is an exception, and a call that throws gets a copy of the state back.
  */
 final class Model {
     private static final class Failing extends RuntimeException {

@@ -2,7 +2,7 @@ import java.util.ArrayList;
 import java.util.List;
 import java.util.TreeMap;
 
-/** Long runs of calls, chosen by a fixed rule, on the program and on the model: every answer alike. */
+/** Long runs of calls, chosen by a fixed rule, on the program and on the model: all alike. */
 final class ModelTest {
     private static final int RUNS = 6000;
     private static final int CALLS = 512;

@@ -9,7 +9,6 @@ final class PromiseTest {
     private static final Class<UnsupportedOperationException> REFUSED =
             UnsupportedOperationException.class;
     private static final int[] NO_REPOSITORY = {-1, 2, Integer.MIN_VALUE, Integer.MAX_VALUE};
-    private static final String LETTERS = "abcdefghijklmnopqrstuvwxyzABCDEFGHIJKLMNOPQRSTUVWXYZ01234567";
 
     public static void main(String[] args) {
         Check.runAll(PromiseTest.class, "promise");
@@ -25,38 +24,6 @@ final class PromiseTest {
         Check.due("promises with a test", numbers.size(), 20);
     }
 
-    // Shared helpers -----------------------------------------------------------------------------
-
-    private static String repeat(char c, int count) {
-        return String.valueOf(c).repeat(count);
-    }
-
-    /** A vault whose repository 0 is DOWN, with a journal and one revision "ab". */
-    private static RevisionVault vaultDown() {
-        RevisionVault vault = Check.vaultWith(0, "ab");
-        vault.begin(0);
-        vault.fail(0, 1);
-        Check.due("commit that fails", vault.commit(0), -2);
-        return vault;
-    }
-
-    private static String bytes(int... codes) {
-        StringBuilder text = new StringBuilder();
-        for (int code : codes) {
-            text.append((char) code);
-        }
-        return text.toString();
-    }
-
-    /** What the buffer holds, seen by appending it in repository 1, which is rolled back. */
-    private static String bufferOf(RevisionVault vault) {
-        vault.begin(1);
-        int n = vault.append(1, -1, -1);
-        String text = Check.textOf(vault, 1, n);
-        vault.abort(1);
-        return text;
-    }
-
     // Promise 1 ----------------------------------------------------------------------------------
 
     static void promise01NewObjectIsEmpty() {
@@ -70,7 +37,7 @@ final class PromiseTest {
             Check.throwsOut("commit", BAD_STATE, () -> vault.commit(at));
             Check.throwsOut("recover", BAD_STATE, () -> vault.recover(at, 0));
         }
-        Check.dueText("buffer", bufferOf(vault), "");
+        Check.dueText("buffer", Check.bufferOf(vault), "");
         Check.due("type of 60", fillsWith(new RevisionVault(), 60), true);
         Check.due("type of 61", fillsWith(new RevisionVault(), 61), false);
     }
@@ -80,7 +47,7 @@ final class PromiseTest {
         RevisionVault other = new RevisionVault();
         Check.type(one, "zz");
         Check.due("revisions", other.revisions(0), 0);
-        Check.dueText("buffer", bufferOf(other), "");
+        Check.dueText("buffer", Check.bufferOf(other), "");
     }
 
     private static boolean fillsWith(RevisionVault vault, int count) {
@@ -97,9 +64,27 @@ final class PromiseTest {
         RevisionVault vault = new RevisionVault();
         Check.due("type", vault.type(0x6162636465666768L), true);
         Check.due("type", vault.type(0x0000696A0000006BL), true);
-        Check.dueText("buffer", bufferOf(vault), "abcdefghijk");
+        Check.dueText("buffer", Check.bufferOf(vault), "abcdefghijk");
         Check.due("type zeros", vault.type(0), true);
-        Check.dueText("buffer", bufferOf(vault), "abcdefghijk");
+        Check.dueText("buffer", Check.bufferOf(vault), "abcdefghijk");
+    }
+
+    /** "zeros left out": wherever they stand, and however full the buffer is. */
+    static void promise02TypeLeavesZerosOut() {
+        for (int place = 0; place < 64; place += 8) {
+            RevisionVault vault = new RevisionVault();
+            Check.type(vault, Check.LETTERS.substring(0, 59));
+            Check.due("the 60th at " + place, vault.type((long) 'q' << place), true);
+            Check.due("zeros", vault.type(0), true);
+            Check.due("the 61st at " + place, vault.type((long) 'q' << place), false);
+            Check.dueText("buffer", Check.bufferOf(vault), Check.LETTERS.substring(0, 59) + "q");
+        }
+        for (int hole = 0; hole < 8; hole++) {
+            RevisionVault vault = new RevisionVault();
+            Check.due("type", vault.type(0x6162636465666768L & ~(255L << 56 - 8 * hole)), true);
+            Check.dueText("buffer", Check.bufferOf(vault),
+                    "abcdefgh".substring(0, hole) + "abcdefgh".substring(hole + 1));
+        }
     }
 
     static void promise02TypeTakesTheCharactersAlone() {
@@ -108,8 +93,8 @@ final class PromiseTest {
             boolean character = code == 10 || code >= 32 && code <= 126;
             Check.due("type low " + code, vault.type(code), character);
             Check.due("type high " + code, vault.type((long) code << 56), character);
-            Check.dueText("buffer", bufferOf(vault),
-                    character ? repeat((char) code, 2) : "");
+            Check.dueText("buffer", Check.bufferOf(vault),
+                    character ? Check.repeat((char) code, 2) : "");
         }
     }
 
@@ -117,27 +102,42 @@ final class PromiseTest {
         RevisionVault vault = new RevisionVault();
         Check.due("good, then bad", vault.type(0x6162636465666709L), false);
         Check.due("bad, then good", vault.type(0x8062636465666768L), false);
-        Check.dueText("buffer", bufferOf(vault), "");
-        Check.type(vault, LETTERS.substring(0, 57));
+        Check.dueText("buffer", Check.bufferOf(vault), "");
+        Check.type(vault, Check.LETTERS.substring(0, 57));
         Check.due("four more", vault.type(Check.pack("wxyz")), false);
         Check.due("three more", vault.type(Check.pack("xyz")), true);
         Check.due("one more", vault.type('a'), false);
         Check.due("none more", vault.type(0), true);
-        Check.dueText("buffer", bufferOf(vault), LETTERS.substring(0, 57) + "xyz");
+        Check.dueText("buffer", Check.bufferOf(vault), Check.LETTERS.substring(0, 57) + "xyz");
     }
 
     // Promise 3 ----------------------------------------------------------------------------------
 
     static void promise03WipeEmptiesTheBuffer() {
         RevisionVault vault = new RevisionVault();
-        Check.type(vault, LETTERS);
+        Check.type(vault, Check.LETTERS);
         vault.wipe();
-        Check.dueText("buffer", bufferOf(vault), "");
+        Check.dueText("buffer", Check.bufferOf(vault), "");
         Check.type(vault, "new");
-        Check.dueText("buffer", bufferOf(vault), "new");
+        Check.dueText("buffer", Check.bufferOf(vault), "new");
         vault.wipe();
         vault.wipe();
-        Check.dueText("buffer", bufferOf(vault), "");
+        Check.dueText("buffer", Check.bufferOf(vault), "");
+        Check.due("60 again", fillsWith(vault, 60), true);
+        Check.due("the 61st", vault.type('q'), false);
+    }
+
+    static void promise03WipeLeavesTheRepositories() {
+        RevisionVault vault = Check.vaultWith(0, "ab");
+        vault.begin(0);
+        Check.append(vault, 0, "cd", 0, -1);
+        String before = Check.stateOf(vault, 0);
+        vault.wipe();
+        Check.dueText("state", Check.stateOf(vault, 0), before);
+        Check.due("abort", vault.abort(0), 1);
+        RevisionVault down = Check.vaultDown();
+        down.wipe();
+        Check.due("DOWN", down.revisions(0), -2);
     }
 
     // Promise 4 ----------------------------------------------------------------------------------
@@ -193,7 +193,7 @@ final class PromiseTest {
             Check.throwsOut("p2 " + p, BAD_PARENT, () -> vault.append(0, 0, p));
         }
         Check.due("revisions", vault.revisions(0), 1);
-        RevisionVault down = vaultDown();
+        RevisionVault down = Check.vaultDown();
         Check.throwsOut("DOWN", BAD_STATE, () -> down.append(0, 7, 7));
     }
 
@@ -204,7 +204,7 @@ final class PromiseTest {
         Check.due("append", vault.append(0, -1, -1), 0);
         Check.due("append", vault.append(0, 0, -1), 1);
         Check.dueText("text", Check.textOf(vault, 0, 1), "stay");
-        Check.dueText("buffer", bufferOf(vault), "stay");
+        Check.dueText("buffer", Check.bufferOf(vault), "stay");
     }
 
     static void promise05AppendAnswersTheRevisionThatHasTheNode() {
@@ -223,12 +223,12 @@ final class PromiseTest {
         dueSnapshot("", "u");
         dueSnapshot("a", "ua");
         dueSnapshot("aa", "uaa");
-        dueSnapshot("aaa", "x" + bytes(3) + "a");
+        dueSnapshot("aaa", "x" + Check.bytes(3) + "a");
         dueSnapshot("aabb", "uaabb");
-        dueSnapshot("aaabb", "x" + bytes(3) + "a" + bytes(2) + "b");
+        dueSnapshot("aaabb", "x" + Check.bytes(3) + "a" + Check.bytes(2) + "b");
         dueSnapshot("abcabc", "uabcabc");
-        dueSnapshot(LETTERS, "u" + LETTERS);
-        dueSnapshot(repeat('\n', 60), "x" + bytes(60, 10));
+        dueSnapshot(Check.LETTERS, "u" + Check.LETTERS);
+        dueSnapshot(Check.repeat('\n', 60), "x" + Check.bytes(60, 10));
     }
 
     private static void dueSnapshot(String text, String chunk) {
@@ -240,15 +240,15 @@ final class PromiseTest {
     }
 
     static void promise05AppendWritesDifferences() {
-        dueDifference("abcdefghij", "abcdXfghij", bytes('d', 4, 5, 1, 'X'));
-        dueDifference("abcdefghij", "abcdefghij!", bytes('d', 10, 10, 1, '!'));
-        dueDifference("abcdefghij", "!abcdefghij", bytes('d', 0, 0, 1, '!'));
-        dueDifference("abcdefghij", "abcghij", bytes('d', 3, 6, 0));
-        dueDifference("abcdefghij", "abcdefghij", bytes('d', 10, 10, 0));
+        dueDifference("abcdefghij", "abcdXfghij", Check.bytes('d', 4, 5, 1, 'X'));
+        dueDifference("abcdefghij", "abcdefghij!", Check.bytes('d', 10, 10, 1, '!'));
+        dueDifference("abcdefghij", "!abcdefghij", Check.bytes('d', 0, 0, 1, '!'));
+        dueDifference("abcdefghij", "abcghij", Check.bytes('d', 3, 6, 0));
+        dueDifference("abcdefghij", "abcdefghij", Check.bytes('d', 10, 10, 0));
         // The beginning is taken first, the end only of what lies behind it.
-        dueDifference("abcaXbc1234", "abcabcaXbc1234", bytes('d', 4, 4, 3, 'b', 'c', 'a'));
-        dueDifference("qwertyyuiop", "qwertyyyuiop", bytes('d', 7, 7, 1, 'y'));
-        dueDifference("qwertyyyuiop", "qwertyyuiop", bytes('d', 7, 8, 0));
+        dueDifference("abcaXbc1234", "abcabcaXbc1234", Check.bytes('d', 4, 4, 3, 'b', 'c', 'a'));
+        dueDifference("qwertyyuiop", "qwertyyyuiop", Check.bytes('d', 7, 7, 1, 'y'));
+        dueDifference("qwertyyyuiop", "qwertyyuiop", Check.bytes('d', 7, 8, 0));
     }
 
     private static void dueDifference(String base, String text, String chunk) {
@@ -270,7 +270,7 @@ final class PromiseTest {
         vault = Check.vaultWith(0, "abcde", "abcd");
         Check.due("4 bytes are below 5", vault.record(0, 1, 3), 0);
         // A packed text is what the difference has to be shorter than, if it is the snapshot.
-        vault = Check.vaultWith(0, repeat('a', 9), repeat('a', 10));
+        vault = Check.vaultWith(0, Check.repeat('a', 9), Check.repeat('a', 10));
         Check.due("packed is shorter still", vault.record(0, 1, 3), -1);
         Check.due("size", vault.record(0, 1, 1), 3);
     }
@@ -309,7 +309,7 @@ final class PromiseTest {
     }
 
     static void promise05AppendKeepsChainsToSix() {
-        String text = LETTERS.substring(0, 40);
+        String text = Check.LETTERS.substring(0, 40);
         RevisionVault vault = Check.vaultWith(0, text, text + "1", text + "12", text + "123",
                 text + "1234", text + "12345", text + "123456", text + "1234567");
         for (int n = 1; n <= 5; n++) {
@@ -322,7 +322,7 @@ final class PromiseTest {
     }
 
     static void promise05AppendPassesOverACandidateWhoseChainIsLong() {
-        String text = LETTERS.substring(0, 40);
+        String text = Check.LETTERS.substring(0, 40);
         RevisionVault vault = Check.vaultWith(0, text, text + "1", text + "12", text + "123",
                 text + "1234", text + "12345");
         vault.begin(0);
@@ -333,7 +333,7 @@ final class PromiseTest {
 
     /** A base chunk of 41 bytes: 4 + n + 41 has to be at most 2 * LENGTH + 16. */
     static void promise05AppendKeepsChainsToTheirBytes() {
-        String text = LETTERS.substring(0, 40);
+        String text = Check.LETTERS.substring(0, 40);
         RevisionVault vault = Check.vaultWith(0, text, text.substring(0, 15));
         Check.due("4 + 41 of 46", vault.record(0, 1, 3), 0);
         vault = Check.vaultWith(0, text, text.substring(0, 14));
@@ -345,7 +345,7 @@ final class PromiseTest {
     }
 
     static void promise05AppendCountsTheBytesOfTheWholeChain() {
-        String text = LETTERS.substring(0, 20);
+        String text = Check.LETTERS.substring(0, 20);
         RevisionVault vault = Check.vaultWith(0, text, text + "abcdef", text + "abcdefghijkl",
                 text.substring(0, 15));
         // 21, 10 and 10 bytes; 4 more are 45, where 46 may be.
@@ -382,32 +382,21 @@ final class PromiseTest {
     }
 
     static void promise05AppendHasSixHundredBytes() {
-        RevisionVault vault = fullOf(600 - 9 * 61);
+        RevisionVault vault = Check.vaultFilled(0, 549);
         Check.due("data", vault.data(0, -1), 600 - 51);
-        Check.due("50 characters", Check.append(vault, 0, LETTERS.substring(1, 51), -1, -1), 9);
+        String fifty = Check.LETTERS.substring(1, 51);
+        Check.due("50 characters", Check.append(vault, 0, fifty, -1, -1), 9);
         Check.due("data", vault.data(0, -1), 600);
-        Check.due("the last byte", vault.data(0, 599), LETTERS.charAt(50));
+        Check.due("the last byte", vault.data(0, 599), Check.LETTERS.charAt(50));
         Check.throwsOut("even a 'u'", REFUSED, () -> Check.append(vault, 0, "", 1, 1));
-        Check.due("one that is there", Check.append(vault, 0, LETTERS.substring(1, 51), -1, -1), 9);
-        RevisionVault other = fullOf(600 - 9 * 61);
+        Check.due("one that is there", Check.append(vault, 0, fifty, -1, -1), 9);
+        RevisionVault other = Check.vaultFilled(0, 549);
         String before = Check.stateOf(other, 0);
         other.fail(0, 1);
         Check.throwsOut("51 characters", REFUSED,
-                () -> Check.append(other, 0, LETTERS.substring(1, 52), -1, -1));
+                () -> Check.append(other, 0, Check.LETTERS.substring(1, 52), -1, -1));
         Check.dueText("state", Check.stateOf(other, 0), before);
         Check.due("the failure waits", other.commit(0), -2);
-    }
-
-    /** Nine revisions of 61 bytes, none of which is a base for another; 51 bytes are left. */
-    private static RevisionVault fullOf(int left) {
-        RevisionVault vault = new RevisionVault();
-        vault.begin(0);
-        for (int n = 0; n < 9; n++) {
-            String turned = LETTERS.substring(n * 5) + LETTERS.substring(0, n * 5);
-            Check.due("append", Check.append(vault, 0, turned, -1, -1), n);
-        }
-        Check.due("left", 600 - vault.data(0, -1), left);
-        return vault;
     }
 
     static void promise05AppendIsTwoWrites() {
@@ -538,6 +527,15 @@ final class PromiseTest {
         Check.due("begin of the other", vault.begin(1), 0);
     }
 
+    /** "1 .. 100, or none for n = 0 .. False .. when .. n is another". */
+    static void promise08FailTakesNoughtToAHundred() {
+        for (int n = -2; n <= 103; n++) {
+            RevisionVault vault = new RevisionVault();
+            Check.due("fail at " + n, vault.fail(0, n), n >= 0 && n <= 100);
+            Check.due("begin", vault.begin(0), n == 1 ? -2 : 0);
+        }
+    }
+
     static void promise08FailComesAtTheHundredth() {
         RevisionVault vault = new RevisionVault();
         Check.due("fail", vault.fail(0, 100), true);
@@ -571,7 +569,7 @@ final class PromiseTest {
     }
 
     static void promise08FailLeavesWhatIsDownAlone() {
-        RevisionVault vault = vaultDown();
+        RevisionVault vault = Check.vaultDown();
         Check.throwsOut("begin", BAD_STATE, () -> vault.begin(0));
         Check.throwsOut("append", BAD_STATE, () -> vault.append(0, -1, -1));
         Check.throwsOut("commit", BAD_STATE, () -> vault.commit(0));
@@ -595,7 +593,7 @@ final class PromiseTest {
             Check.throwsOut("UP, n " + n, NO_SUCH, () -> vault.recover(0, n));
         }
         Check.throwsOut("UP", BAD_STATE, () -> vault.recover(0, 0));
-        RevisionVault down = vaultDown();
+        RevisionVault down = Check.vaultDown();
         Check.throwsOut("DOWN, n 4", NO_SUCH, () -> down.recover(0, 4));
         Check.throwsOut("the other is UP", BAD_STATE, () -> down.recover(1, 0));
         Check.due("revisions", down.revisions(0), -2);
@@ -632,6 +630,27 @@ final class PromiseTest {
         Check.due("recover, none went", vault.recover(0, 0), 0);
         Check.due("revisions", vault.revisions(0), 0);
         Check.due("data", vault.data(0, -1), 0);
+    }
+
+    /** "With n from 1 to 3 a failure comes at the n-th WRITE of this", with 0 none. */
+    static void promise09RecoverFailsAtItsWrite() {
+        for (int n = 0; n <= 3; n++) {
+            RevisionVault vault = new RevisionVault();
+            vault.begin(0);
+            Check.append(vault, 0, "ab", -1, -1);
+            Check.append(vault, 0, "cd", 0, -1);
+            vault.fail(0, 1);
+            vault.commit(0);
+            Check.due("recover", vault.recover(0, n), n == 0 ? 2 : -2);
+            Check.due("revisions", vault.revisions(0), n == 0 ? 0 : -2);
+            if (n > 0) {
+                // DATA and INDEX were cut before the third, so none is left to go.
+                Check.due("recover again", vault.recover(0, 0), n == 3 ? 0 : 2);
+            }
+            Check.due("revisions", vault.revisions(0), 0);
+            Check.due("data", vault.data(0, -1), 0);
+            Check.due("begin", vault.begin(0), 0);
+        }
     }
 
     static void promise09RecoverTellsNoFailureForLater() {
@@ -692,7 +711,7 @@ final class PromiseTest {
         RevisionVault vault = Check.vaultWith(0, "root");
         Check.type(vault, "mine");
         vault.pull(1);
-        Check.dueText("buffer", bufferOf(vault), "mine");
+        Check.dueText("buffer", Check.bufferOf(vault), "mine");
     }
 
     static void promise10PullChoosesChunksAnew() {
@@ -790,20 +809,72 @@ final class PromiseTest {
         Check.throwsOut("25", REFUSED, () -> vault.pull(1));
     }
 
+    /** "there are 24 records": 22 and two that come are as many as there may be. */
+    static void promise10PullFillsTwentyFourRecords() {
+        for (int there = 21; there <= 23; there++) {
+            RevisionVault vault = Check.vaultWith(0, "a", "b");
+            vault.begin(1);
+            for (int n = 0; n < there; n++) {
+                vault.append(1, n - 1, -1);
+            }
+            vault.commit(1);
+            if (there <= 22) {
+                Check.due("pull", vault.pull(1), 2);
+                Check.due("revisions", vault.revisions(1), there + 2);
+            } else {
+                Check.throwsOut("25", REFUSED, () -> vault.pull(1));
+                Check.due("revisions", vault.revisions(1), 23);
+            }
+        }
+    }
+
+    /** What is there already needs no room. */
+    static void promise10PullOfWhatIsThereNeedsNoRoom() {
+        RevisionVault vault = Check.vaultFilled(0, 600);
+        vault.commit(0);
+        Check.due("pull", vault.pull(1), 10);
+        Check.due("data", vault.data(1, -1), 600);
+        Check.due("pull again", vault.pull(1), 0);
+        Check.due("pull back", vault.pull(0), 0);
+        vault.damage(0, 1, 1);
+        Check.due("what is there may be WRONG", vault.pull(1), 0);
+    }
+
+    /** "DATA would have more than 600 bytes": 600 may be, 601 not, with the second that comes. */
+    static void promise10PullFillsSixHundredBytes() {
+        for (int there = 594; there <= 595; there++) {
+            RevisionVault vault = Check.vaultFilled(1, there);
+            vault.commit(1);
+            int before = vault.revisions(1);
+            vault.begin(0);
+            Check.append(vault, 0, "!?", -1, -1);
+            Check.append(vault, 0, "+-", 0, -1);
+            vault.commit(0);
+            if (there == 594) {
+                Check.due("pull", vault.pull(1), 2);
+                Check.due("data", vault.data(1, -1), 600);
+            } else {
+                Check.throwsOut("601", REFUSED, () -> vault.pull(1));
+                Check.due("data", vault.data(1, -1), 595);
+                Check.due("revisions", vault.revisions(1), before);
+            }
+        }
+    }
+
     static void promise10PullHasNoMoreBytesThanAppend() {
-        RevisionVault vault = fullOf(51);
+        RevisionVault vault = Check.vaultFilled(0, 549);
         vault.commit(0);
         vault.begin(1);
-        Check.append(vault, 1, LETTERS.substring(1, 50), -1, -1);
+        Check.append(vault, 1, Check.LETTERS.substring(1, 50), -1, -1);
         Check.append(vault, 1, "y", -1, -1);
         vault.commit(1);
         String before = Check.stateOf(vault, 0);
         Check.throwsOut("602", REFUSED, () -> vault.pull(0));
         Check.dueText("state", Check.stateOf(vault, 0), before);
-        RevisionVault other = fullOf(51);
+        RevisionVault other = Check.vaultFilled(0, 549);
         other.commit(0);
         other.begin(1);
-        Check.append(other, 1, LETTERS.substring(1, 51), -1, -1);
+        Check.append(other, 1, Check.LETTERS.substring(1, 51), -1, -1);
         other.commit(1);
         Check.due("600", other.pull(0), 1);
         Check.due("data", other.data(0, -1), 600);
@@ -812,7 +883,8 @@ final class PromiseTest {
     // Promise 11 ---------------------------------------------------------------------------------
 
     static void promise11TextHasItsCharacters() {
-        RevisionVault vault = Check.vaultWith(0, "a\n~ ", LETTERS, LETTERS.substring(3));
+        RevisionVault vault = Check.vaultWith(0, "a\n~ ", Check.LETTERS,
+                Check.LETTERS.substring(3));
         Check.due("k 0", vault.text(0, 0, 0), 'a');
         Check.due("k 1", vault.text(0, 0, 1), 10);
         Check.due("k 2", vault.text(0, 0, 2), '~');
@@ -823,7 +895,7 @@ final class PromiseTest {
         Check.due("k 59", vault.text(0, 1, 59), '7');
         Check.due("k 60", vault.text(0, 1, 60), 0);
         Check.due("behind a shorter one", vault.text(0, 2, 57), 0);
-        Check.dueText("text", Check.textOf(vault, 0, 2), LETTERS.substring(3));
+        Check.dueText("text", Check.textOf(vault, 0, 2), Check.LETTERS.substring(3));
     }
 
     static void promise11TextThrows() {
@@ -862,7 +934,7 @@ final class PromiseTest {
     }
 
     static void promise12QuestionsToOneThatIsDown() {
-        RevisionVault vault = vaultDown();
+        RevisionVault vault = Check.vaultDown();
         for (int n : new int[] {0, 9, -1}) {
             Check.due("revisions", vault.revisions(0), -2);
             Check.due("record", vault.record(0, n, 0), -2);
@@ -945,7 +1017,7 @@ final class PromiseTest {
         boolean negative = false;
         boolean positive = false;
         for (int k = 0; k < 50; k++) {
-            RevisionVault vault = Check.vaultWith(0, LETTERS.substring(k, k + 8), "child");
+            RevisionVault vault = Check.vaultWith(0, Check.LETTERS.substring(k, k + 8), "child");
             long parent = vault.node(0, 0);
             negative |= parent < 0;
             positive |= parent > 0;
@@ -958,7 +1030,7 @@ final class PromiseTest {
 
     static void promise15DataShowsTheBytes() {
         RevisionVault vault = Check.vaultWith(0, "abcdefg", "abcdefg~", "");
-        String want = "uabcdefg" + bytes('d', 7, 7, 1, '~') + "u";
+        String want = "uabcdefg" + Check.bytes('d', 7, 7, 1, '~') + "u";
         Check.due("bytes", vault.data(0, -1), want.length());
         for (int k = 0; k < want.length(); k++) {
             Check.due("byte " + k, vault.data(0, k), want.charAt(k));
@@ -967,6 +1039,15 @@ final class PromiseTest {
             Check.due("byte " + k, vault.data(0, k), -1);
         }
         Check.due("the other's", vault.data(1, 0), -1);
+    }
+
+    static void promise15DataOfAFullFile() {
+        RevisionVault vault = Check.vaultFilled(0, 600);
+        Check.due("bytes", vault.data(0, -1), 600);
+        Check.due("the last", vault.data(0, 599), Check.textOf(vault, 0, 9).charAt(49));
+        Check.due("behind it", vault.data(0, 600), -1);
+        Check.due("damage of the last", vault.damage(0, 599, 1), true);
+        Check.due("damage behind it", vault.damage(0, 600, 1), false);
     }
 
     // Promise 16 ---------------------------------------------------------------------------------
@@ -983,6 +1064,20 @@ final class PromiseTest {
         Check.dueText("text", Check.textOf(vault, 0, 0), "ab");
     }
 
+    /** "(x 1 .. 255)", at the first byte and at the last. */
+    static void promise16DamageTakesOneToTwoHundredAndFiftyFive() {
+        for (int x = -1; x <= 257; x++) {
+            boolean taken = x >= 1 && x <= 255;
+            RevisionVault vault = Check.vaultWith(0, "ab");
+            Check.due("first by " + x, vault.damage(0, 0, x), taken);
+            Check.due("byte", vault.data(0, 0), taken ? 'u' ^ x : 'u');
+            Check.due("last by " + x, vault.damage(0, 2, x), taken);
+            Check.due("byte", vault.data(0, 2), taken ? 'b' ^ x : 'b');
+            Check.due("behind the last by " + x, vault.damage(0, 3, x), false);
+            Check.due("before the first by " + x, vault.damage(0, -1, x), false);
+        }
+    }
+
     static void promise16DamageIsRefused() {
         RevisionVault vault = Check.vaultWith(0, "ab");
         String before = Check.stateOf(vault, 0);
@@ -994,7 +1089,7 @@ final class PromiseTest {
         }
         Check.due("the other", vault.damage(1, 0, 1), false);
         Check.dueText("state", Check.stateOf(vault, 0), before);
-        RevisionVault down = vaultDown();
+        RevisionVault down = Check.vaultDown();
         Check.due("DOWN", down.damage(0, 1, 1), false);
         down.recover(0, 0);
         Check.due("byte", down.data(0, 1), 'a');
@@ -1034,18 +1129,12 @@ final class PromiseTest {
         dueWrong(odd, 0, 'u' ^ 'x', 1);
     }
 
-    /** Damages byte k of repository 0 so that it becomes the value. */
-    private static void put(RevisionVault vault, int k, int value) {
-        int x = vault.data(0, k) ^ value;
-        Check.due("damage", x == 0 || vault.damage(0, k, x), true);
-    }
-
     static void promise17WrongIsNoOtherPackingOfTheSameText() {
         RevisionVault vault = Check.vaultWith(0, "aabb");
-        put(vault, 0, 'x');
-        put(vault, 1, 2);
-        put(vault, 3, 2);
-        Check.dueText("chunk", Check.chunkOf(vault, 0, 0), bytes('x', 2, 'a', 2, 'b'));
+        Check.put(vault, 0, 'x');
+        Check.put(vault, 1, 2);
+        Check.put(vault, 3, 2);
+        Check.dueText("chunk", Check.chunkOf(vault, 0, 0), Check.bytes('x', 2, 'a', 2, 'b'));
         Check.due("wrong", vault.wrong(0), 0);
         Check.dueText("text", Check.textOf(vault, 0, 0), "aabb");
     }
@@ -1053,88 +1142,88 @@ final class PromiseTest {
     /** In these the difference's text would be right if the rule were left out. */
     static void promise17WrongRunOfNone() {
         RevisionVault vault = Check.vaultWith(0, "aaaaabbbbb", "aaaaaXYZW12");
-        Check.dueText("chunk", Check.chunkOf(vault, 0, 1), bytes('d', 5, 10, 6) + "XYZW12");
-        put(vault, 3, 1);
-        put(vault, 7, 6);
+        Check.dueText("chunk", Check.chunkOf(vault, 0, 1), Check.bytes('d', 5, 10, 6) + "XYZW12");
+        Check.put(vault, 3, 1);
+        Check.put(vault, 7, 6);
         Check.due("a run of one", vault.wrong(0), 1);
-        put(vault, 3, 0);
-        put(vault, 7, 5);
+        Check.put(vault, 3, 0);
+        Check.put(vault, 7, 5);
         Check.due("a run of none", vault.wrong(0), 2);
     }
 
     static void promise17WrongHalfPair() {
         RevisionVault vault = Check.vaultWith(0, "abcdefghi", "abcdZ");
-        Check.dueText("chunk", Check.chunkOf(vault, 0, 1), bytes('d', 4, 9, 1, 'Z'));
-        put(vault, 0, 'x');
+        Check.dueText("chunk", Check.chunkOf(vault, 0, 1), Check.bytes('d', 4, 9, 1, 'Z'));
+        Check.put(vault, 0, 'x');
         for (int k = 0; k < 4; k++) {
-            put(vault, 1 + 2 * k, 1);
-            put(vault, 2 + 2 * k, "abcd".charAt(k));
+            Check.put(vault, 1 + 2 * k, 1);
+            Check.put(vault, 2 + 2 * k, "abcd".charAt(k));
         }
-        put(vault, 9, 1);
-        put(vault, 12, 4);
+        Check.put(vault, 9, 1);
+        Check.put(vault, 12, 4);
         Check.due("wrong", vault.wrong(0), 2);
-        put(vault, 12, 5);
+        Check.put(vault, 12, 5);
         Check.due("not read beyond its chunk either", vault.wrong(0), 2);
     }
 
     static void promise17WrongDifferenceThatGoesBack() {
-        RevisionVault vault = Check.vaultWith(0, repeat('a', 10),
-                repeat('a', 6) + "BCDE" + repeat('a', 6));
-        Check.dueText("chunk", Check.chunkOf(vault, 0, 1), bytes('d', 6, 6, 6) + "BCDEaa");
-        put(vault, 1, 12);
-        put(vault, 5, 8);
+        RevisionVault vault = Check.vaultWith(0, Check.repeat('a', 10),
+                Check.repeat('a', 6) + "BCDE" + Check.repeat('a', 6));
+        Check.dueText("chunk", Check.chunkOf(vault, 0, 1), Check.bytes('d', 6, 6, 6) + "BCDEaa");
+        Check.put(vault, 1, 12);
+        Check.put(vault, 5, 8);
         Check.due("a below b", vault.wrong(0), 1);
-        put(vault, 1, 8);
-        put(vault, 5, 4);
+        Check.put(vault, 1, 8);
+        Check.put(vault, 5, 4);
         Check.due("a above b", vault.wrong(0), 2);
     }
 
     static void promise17WrongDifferenceBehindTheBase() {
-        RevisionVault vault = Check.vaultWith(0, repeat('a', 10), "aaaaaBCDEFGH");
-        Check.dueText("chunk", Check.chunkOf(vault, 0, 1), bytes('d', 5, 10, 7) + "BCDEFGH");
-        put(vault, 5, 11);
+        RevisionVault vault = Check.vaultWith(0, Check.repeat('a', 10), "aaaaaBCDEFGH");
+        Check.dueText("chunk", Check.chunkOf(vault, 0, 1), Check.bytes('d', 5, 10, 7) + "BCDEFGH");
+        Check.put(vault, 5, 11);
         Check.due("b above the length", vault.wrong(0), 1);
-        put(vault, 5, 10);
-        put(vault, 1, 9);
+        Check.put(vault, 5, 10);
+        Check.put(vault, 1, 9);
         Check.due("b above the length that the base has now", vault.wrong(0), 2);
-        put(vault, 5, 9);
+        Check.put(vault, 5, 9);
         Check.due("b at that length", vault.wrong(0), 1);
     }
 
     static void promise17WrongSnapshotBeyondSixty() {
-        RevisionVault vault = Check.vaultWith(0, repeat('a', 20), "aaaaabcdefgh");
-        Check.dueText("chunk", Check.chunkOf(vault, 0, 1), bytes('d', 5, 20, 7) + "bcdefgh");
-        put(vault, 1, 60);
-        put(vault, 5, 60);
+        RevisionVault vault = Check.vaultWith(0, Check.repeat('a', 20), "aaaaabcdefgh");
+        Check.dueText("chunk", Check.chunkOf(vault, 0, 1), Check.bytes('d', 5, 20, 7) + "bcdefgh");
+        Check.put(vault, 1, 60);
+        Check.put(vault, 5, 60);
         Check.due("60 on the way", vault.wrong(0), 1);
         Check.dueText("text", Check.textOf(vault, 0, 1), "aaaaabcdefgh");
-        put(vault, 1, 61);
-        put(vault, 5, 61);
+        Check.put(vault, 1, 61);
+        Check.put(vault, 5, 61);
         Check.due("61 on the way", vault.wrong(0), 2);
-        put(vault, 1, 255);
-        put(vault, 5, 255);
+        Check.put(vault, 1, 255);
+        Check.put(vault, 5, 255);
         Check.due("255 on the way", vault.wrong(0), 2);
     }
 
     static void promise17WrongDifferenceBeyondSixty() {
-        RevisionVault vault = Check.vaultWith(0, repeat('a', 20), repeat('a', 20) + "BCDEF",
-                repeat('a', 20) + "GHIJK");
-        Check.dueText("chunk 1", Check.chunkOf(vault, 0, 1), bytes('d', 20, 20, 5) + "BCDEF");
-        Check.dueText("chunk 2", Check.chunkOf(vault, 0, 2), bytes('d', 20, 25, 5) + "GHIJK");
-        put(vault, 1, 55);
-        put(vault, 14, 60);
+        RevisionVault vault = Check.vaultWith(0, Check.repeat('a', 20),
+                Check.repeat('a', 20) + "BCDEF", Check.repeat('a', 20) + "GHIJK");
+        Check.dueText("chunk 1", Check.chunkOf(vault, 0, 1), Check.bytes('d', 20, 20, 5) + "BCDEF");
+        Check.dueText("chunk 2", Check.chunkOf(vault, 0, 2), Check.bytes('d', 20, 25, 5) + "GHIJK");
+        Check.put(vault, 1, 55);
+        Check.put(vault, 14, 60);
         Check.due("60 on the way", vault.wrong(0), 2);
-        Check.dueText("text", Check.textOf(vault, 0, 2), repeat('a', 20) + "GHIJK");
-        put(vault, 1, 56);
-        put(vault, 14, 61);
+        Check.dueText("text", Check.textOf(vault, 0, 2), Check.repeat('a', 20) + "GHIJK");
+        Check.put(vault, 1, 56);
+        Check.put(vault, 14, 61);
         Check.due("61 on the way", vault.wrong(0), 3);
-        put(vault, 14, 56);
+        Check.put(vault, 14, 56);
         Check.due("61 on the way, not passed over", vault.wrong(0), 3);
     }
 
     static void promise17WrongDifferences() {
         RevisionVault vault = Check.vaultWith(0, "abcdefghij", "abcdXYghij");
-        Check.dueText("chunk", Check.chunkOf(vault, 0, 1), bytes('d', 4, 6, 2, 'X', 'Y'));
+        Check.dueText("chunk", Check.chunkOf(vault, 0, 1), Check.bytes('d', 4, 6, 2, 'X', 'Y'));
         dueWrong(vault, 11, 'd' ^ 'u', 1);
         dueWrong(vault, 11, 'd' ^ 'x', 1);
         dueWrong(vault, 12, 4 ^ 7, 1);
@@ -1171,6 +1260,20 @@ final class PromiseTest {
         vault.damage(0, 4, 1);
         Check.due("wrong", vault.wrong(0), 2);
         Check.due("wrong of the other", vault.wrong(1), 0);
+    }
+
+    static void promise17WrongOfNoneAndOfAll() {
+        RevisionVault vault = new RevisionVault();
+        Check.due("no revision", vault.wrong(0), 0);
+        vault.begin(0);
+        for (int n = 0; n < 24; n++) {
+            vault.append(0, n - 1, -1);
+        }
+        for (int n = 0; n < 24; n++) {
+            Check.due("wrong", vault.wrong(0), n);
+            vault.damage(0, n, 1);
+        }
+        Check.due("all", vault.wrong(0), 24);
     }
 
     // Promise 18 ---------------------------------------------------------------------------------
@@ -1229,10 +1332,12 @@ final class PromiseTest {
         RevisionVault vault = new RevisionVault();
         vault.begin(0);
         for (int n = 0; n < 24; n++) {
-            Check.append(vault, 0, LETTERS.substring(n, n + 1), n - 2 < 0 ? -1 : n - 2,
+            Check.append(vault, 0, Check.LETTERS.substring(n, n + 1), n - 2 < 0 ? -1 : n - 2,
                     n == 1 ? 0 : -1);
         }
         Check.due("even and odd", vault.common(0, 22, 23), 0);
         Check.due("odd and odd", vault.common(0, 23, 21), 21);
+        Check.due("the last itself", vault.common(0, 23, 23), 23);
+        Check.due("behind the last", vault.common(0, 24, 24), -1);
     }
 }
