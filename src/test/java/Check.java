@@ -166,7 +166,8 @@ final class Check {
             }
             state.append(vault.node(r, n)).append(';');
         }
-        for (int k = -1; k < vault.data(r, -1); k++) {
+        int bytes = vault.data(r, -1);
+        for (int k = -1; k < bytes; k++) {
             state.append(vault.data(r, k)).append(' ');
         }
         return state.toString();

@@ -391,11 +391,11 @@ final class PromiseTest {
         Check.throwsOut("even a 'u'", REFUSED, () -> Check.append(vault, 0, "", 1, 1));
         Check.due("one that is there", Check.append(vault, 0, fifty, -1, -1), 9);
         RevisionVault other = Check.vaultFilled(0, 549);
-        String before = Check.stateOf(other, 0);
         other.fail(0, 1);
         Check.throwsOut("51 characters", REFUSED,
                 () -> Check.append(other, 0, Check.LETTERS.substring(1, 52), -1, -1));
-        Check.dueText("state", Check.stateOf(other, 0), before);
+        Check.due("revisions", other.revisions(0), 9);
+        Check.due("data", other.data(0, -1), 549);
         Check.due("the failure waits", other.commit(0), -2);
     }
 
@@ -868,9 +868,9 @@ final class PromiseTest {
         Check.append(vault, 1, Check.LETTERS.substring(1, 50), -1, -1);
         Check.append(vault, 1, "y", -1, -1);
         vault.commit(1);
-        String before = Check.stateOf(vault, 0);
-        Check.throwsOut("602", REFUSED, () -> vault.pull(0));
-        Check.dueText("state", Check.stateOf(vault, 0), before);
+        Check.throwsOut("601", REFUSED, () -> vault.pull(0));
+        Check.due("revisions", vault.revisions(0), 9);
+        Check.due("data", vault.data(0, -1), 549);
         RevisionVault other = Check.vaultFilled(0, 549);
         other.commit(0);
         other.begin(1);

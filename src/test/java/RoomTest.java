@@ -31,6 +31,20 @@ final class RoomTest {
         Check.due(what + " made " + made + " bytes, few enough", made <= SLACK, true);
     }
 
+    /** Some 80 objects and 2,300 numbers: a run may make a few hundred vaults. */
+    static void roomForANewVault() {
+        ThreadMXBean meter = (ThreadMXBean) ManagementFactory.getThreadMXBean();
+        long self = Thread.currentThread().getId();
+        RevisionVault kept = new RevisionVault();
+        long before = meter.getThreadAllocatedBytes(self);
+        for (int k = 0; k < CALLS; k++) {
+            kept = new RevisionVault();
+        }
+        long made = (meter.getThreadAllocatedBytes(self) - before) / CALLS;
+        Check.due("revisions", kept.revisions(0), 0);
+        Check.due("a vault made " + made + " bytes, few enough", made <= 16384, true);
+    }
+
     static void roomForQuestions() {
         dueNoObjects("questions", vault -> {
             vault.wrong(0);

@@ -1,6 +1,10 @@
 import java.io.IOException;
+import java.lang.reflect.Field;
+import java.lang.reflect.Method;
+import java.lang.reflect.Modifier;
 import java.nio.file.Files;
 import java.nio.file.Path;
+import java.util.ArrayList;
 import java.util.List;
 import java.util.regex.Matcher;
 import java.util.regex.Pattern;
@@ -9,6 +13,9 @@ import java.util.regex.Pattern;
 final class RulesTest {
     private static final Path PROGRAM = Path.of("src/main/java/RevisionVault.java");
     private static final int LONGEST_METHOD = 60;
+    private static final int MOST_CLASSES = 12;
+    private static final int MOST_FIELDS = 20;
+    private static final int MOST_PARAMETERS = 7;
     private static final String[] FORBIDDEN = {"->", "::", "\\bfinally\\b", "\\bsynchronized\\b",
         "\\bassert\\b", "\\bstatic\\s*\\{", "\\bpackage\\b", "\\bvar\\b", "\\bthrow e\\b",
         "getMessage", "\\bhashCode\\b", "\\btoString\\b", "Exact\\("};
@@ -53,6 +60,23 @@ final class RulesTest {
         String code = code();
         long all = Pattern.compile("\\bthrow\\b").matcher(code).results().count();
         Check.due("throws of a known form", THROWN.matcher(code).results().count(), all);
+    }
+
+    static void rulesKeepClassesSmall() {
+        List<Class<?>> classes = new ArrayList<>(List.of(RevisionVault.class.getDeclaredClasses()));
+        classes.add(RevisionVault.class);
+        Check.due("few classes", classes.size() <= MOST_CLASSES, true);
+        for (Class<?> each : classes) {
+            int fields = 0;
+            for (Field field : each.getDeclaredFields()) {
+                fields += Modifier.isStatic(field.getModifiers()) ? 0 : 1;
+            }
+            Check.due(each + " has few fields", fields <= MOST_FIELDS, true);
+            for (Method method : each.getDeclaredMethods()) {
+                Check.due(method + " has few parameters",
+                        method.getParameterCount() <= MOST_PARAMETERS, true);
+            }
+        }
     }
 
     /** A method begins at a line that ends in ") {" and ends at a brace of the same depth. */

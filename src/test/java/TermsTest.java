@@ -59,14 +59,16 @@ final class TermsTest {
         }
         vault.commit(0);
         int calls = 26;
-        while (calls < 510) {
+        while (calls < 509) {
             vault.fail(1, 50);
             Check.due("pull", vault.pull(1), -2);
             Check.due("recover", vault.recover(1, 0), 24);
             calls += 3;
         }
-        Check.due("pull", vault.pull(1), 24);
-        Check.due("call " + (calls + 2), vault.revisions(1), 24);
+        Check.due("calls so far", calls, 509);
+        Check.due("call 510", vault.pull(1), 24);
+        Check.due("call 511", vault.revisions(1), 24);
+        Check.due("call 512", vault.wrong(1), 0);
     }
 
     // The buffer ---------------------------------------------------------------------------------
@@ -298,7 +300,7 @@ final class TermsTest {
         Check.due("node of '" + text + "'", Check.vaultWith(0, text).node(0, 0), want);
     }
 
-    /** "the lesser (as longs) of the nodes of the two parents (0 for none), then .. the greater". */
+    /** "the lesser (as longs) of the nodes of the two parents (0 for none)", then the greater. */
     static void termNodeTakesTheLesserParentFirst() {
         dueNodeOfX("a negative one and none", 0, -1, -4495570306600433162L);
         dueNodeOfX("a positive one and none", 1, -1, -5823257373605985308L);
@@ -389,10 +391,9 @@ final class TermsTest {
     /** "the first byte of a chunk is not u or x without a BASE": any other, the rest as it was. */
     static void termWrongFirstByteWithoutABase() {
         for (String text : new String[] {"", "a", "abcd", "aaaaabbbb"}) {
-            RevisionVault vault = Check.vaultWith(0, text);
-            int mark = vault.data(0, 0);
-            dueWrong("as it was", vault, 0);
             for (int other = 0; other < 256; other++) {
+                RevisionVault vault = Check.vaultWith(0, text);
+                int mark = vault.data(0, 0);
                 // Without bytes behind it 'x' says the same empty text as 'u'.
                 boolean right = other == mark || text.isEmpty() && other == 'x';
                 Check.put(vault, 0, other);
@@ -417,9 +418,9 @@ final class TermsTest {
 
     /** "or not d with one": any other, and the rest as it was. */
     static void termWrongFirstByteWithABase() {
-        RevisionVault vault = Check.vaultWith(0, "abcdefghij", "abcdXYghij");
-        dueChunk(vault, 1, Check.bytes('d', 4, 6, 2, 'X', 'Y'));
         for (int other = 0; other < 256; other++) {
+            RevisionVault vault = Check.vaultWith(0, "abcdefghij", "abcdXYghij");
+            dueChunk(vault, 1, Check.bytes('d', 4, 6, 2, 'X', 'Y'));
             Check.put(vault, 11, other);
             dueWrong("first byte " + other, vault, other == 'd' ? 0 : 1);
         }
@@ -593,6 +594,41 @@ final class TermsTest {
         Check.put(vault, 1, 56);
         Check.put(vault, 14, 61);
         dueWrong("61 on the way", vault, 3);
+    }
+
+    /** A run that is too long is not passed over, where the rest would be what is needed. */
+    static void termWrongRunBeyondSixtyIsNotPassedOver() {
+        RevisionVault vault = Check.vaultWith(0, "aaaaabbbbb", "aaaaaXYZW12");
+        dueChunk(vault, 1, Check.bytes('d', 5, 10, 6) + "XYZW12");
+        Check.put(vault, 7, 5);
+        dueWrong("b's left over", vault, 1);
+        for (int run : new int[] {56, 61, 255}) {
+            Check.put(vault, 3, run);
+            dueWrong("5 and " + run, vault, 2);
+        }
+    }
+
+    /** A difference that can't be applied is not passed over, where its text is the base's. */
+    static void termWrongDifferenceIsNotPassedOver() {
+        RevisionVault vault = Check.vaultWith(0, "abcdefgh", "abcdefgh");
+        dueChunk(vault, 1, Check.bytes('d', 8, 8, 0));
+        dueWrong("as it was", vault, 0);
+        int[][] damaged = {{'u', 8, 8, 0}, {'e', 8, 8, 0}, {'d', 9, 8, 0}, {'d', 8, 9, 0},
+            {'d', 9, 9, 0}, {'d', 8, 8, 1}, {'d', 8, 7, 0}, {'d', 8, 8, 255}};
+        for (int[] chunk : damaged) {
+            for (int k = 0; k < 4; k++) {
+                Check.put(vault, 9 + k, chunk[k]);
+            }
+            dueWrong(java.util.Arrays.toString(chunk), vault, 1);
+        }
+        // Nothing is replaced by nothing, wherever that is.
+        for (int a = 0; a <= 8; a++) {
+            Check.put(vault, 9, 'd');
+            Check.put(vault, 10, a);
+            Check.put(vault, 11, a);
+            Check.put(vault, 12, 0);
+            dueWrong("a = b = " + a, vault, 0);
+        }
     }
 
     /** "the result has not the record's LENGTH": one more and one less. */
@@ -879,7 +915,7 @@ final class TermsTest {
         Check.due("data", vault.data(0, -1), 9);
     }
 
-    /** "DATA is cut .. (a WRITE), INDEX is (a WRITE), the journal is removed (a WRITE)", in order. */
+    /** "DATA is cut .. (a WRITE), INDEX is (a WRITE), the journal is removed (a WRITE)". */
     static void termRollingBackIsThreeWrites() {
         for (int failing = 1; failing <= 4; failing++) {
             RevisionVault vault = Check.vaultWith(0, "ab");

@@ -2,9 +2,9 @@ import java.util.ArrayList;
 import java.util.List;
 
 /**
- * "A call that throws or is refused changes nothing." Two vaults are made alike, one of them gets the
- * call, and from then on both must answer alike: the buffer, the files, the journals and what they
- * would roll back to, who is DOWN, and at which WRITE a told failure comes.
+ * "A call that throws or is refused changes nothing." Two vaults are made alike, one of them gets
+ * the call, and from then on both must answer alike: the buffer, the files, the journals and what
+ * they would roll back to, who is DOWN, and at which WRITE a told failure comes.
  */
 final class UnchangedTest {
     private static final String NO_SUCH = "throws.IndexOutOfBoundsException";
