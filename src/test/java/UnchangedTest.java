@@ -279,6 +279,8 @@ final class UnchangedTest {
             dueUnchanged("no journal", BAD_STATE, UnchangedTest::idle,
                     vault -> vault.append(at, -1, -1));
             dueUnchanged("DOWN", BAD_STATE, () -> down(at), vault -> vault.append(at, -1, -1));
+            dueUnchanged("DOWN, no journal", BAD_STATE, () -> downWithoutJournal(at),
+                    vault -> vault.append(at, -1, -1));
             int revisions = busy().revisions(r);
             for (int p : new int[] {revisions, -2, Integer.MIN_VALUE, Integer.MAX_VALUE}) {
                 dueUnchanged("p1 " + p, BAD_PARENT, UnchangedTest::busy,
@@ -460,6 +462,9 @@ final class UnchangedTest {
                         vault -> vault.text(at, n, 0));
             }
             dueUnchanged("DOWN", BAD_STATE, () -> down(at), vault -> vault.text(at, 0, 0));
+            dueUnchanged("DOWN, no journal", BAD_STATE, () -> downWithoutJournal(at),
+                    vault -> vault.text(at, 0, 0));
+            dueUnchanged("DOWN, no n", NO_SUCH, () -> down(at), vault -> vault.text(at, 9, 0));
             dueUnchanged("WRONG", REFUSED, () -> {
                 RevisionVault vault = busy();
                 vault.damage(at, 1, 1);
@@ -485,6 +490,8 @@ final class UnchangedTest {
                         vault -> number(vault.damage(at, 0, x)));
             }
             dueUnchanged("DOWN", "0", () -> down(at), vault -> number(vault.damage(at, 0, 1)));
+            dueUnchanged("DOWN, no journal", "0", () -> downWithoutJournal(at),
+                    vault -> number(vault.damage(at, 0, 1)));
         }
     }
 
