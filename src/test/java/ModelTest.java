@@ -169,7 +169,7 @@ final class ModelTest {
         StringBuilder text = new StringBuilder();
         while (text.length() < length) {
             int run = below(3) == 0 ? 1 + below(style == 2 ? 20 : 5) : 1;
-            char c = below(30) == 0 ? (char) 10 : (char) ("ab~ cde".charAt(below(7)));
+            char c = below(30) == 0 ? (char) 10 : "ab~ cde".charAt(below(7));
             for (int k = 0; k < run && text.length() < length; k++) {
                 text.append(c);
             }

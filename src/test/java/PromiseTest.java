@@ -791,6 +791,56 @@ final class PromiseTest {
         Check.due("recover", vault.recover(1, 0), 0);
     }
 
+    /** "that is not done, nor anything after it": the last to come is WRONG or finds no room. */
+    static void promise10PullFailsUpToTheWriteBeforeItRefuses() {
+        for (int kind = 0; kind < 3; kind++) {
+            // The journal and two revisions are five WRITES; the third revision refuses the sixth.
+            for (int failing = 1; failing <= 7; failing++) {
+                RevisionVault vault = refusingTheThird(kind);
+                int before = vault.revisions(1);
+                vault.fail(1, failing);
+                if (failing <= 5) {
+                    Check.due("pull " + failing, vault.pull(1), -2);
+                    Check.due("recover", vault.recover(1, 0), failing < 4 ? 0 : 1);
+                } else {
+                    Check.throwsOut("pull " + failing, REFUSED, () -> vault.pull(1));
+                    dueAtWrite(vault, failing);
+                }
+                Check.due("revisions", vault.revisions(1), before);
+            }
+        }
+    }
+
+    /** Three of repository 0 are to come: the last is WRONG, the 25th record or the 601st byte. */
+    private static RevisionVault refusingTheThird(int kind) {
+        RevisionVault vault = kind == 2 ? Check.vaultFilled(1, 592) : new RevisionVault();
+        if (kind != 2) {
+            vault.begin(1);
+        }
+        for (int n = 0; kind == 1 && n < 22; n++) {
+            vault.append(1, n - 1, -1);
+        }
+        vault.commit(1);
+        vault.begin(0);
+        Check.append(vault, 0, "!?", -1, -1);
+        Check.append(vault, 0, "+-", 0, -1);
+        Check.append(vault, 0, "#*", 1, -1);
+        vault.commit(0);
+        if (kind == 0) {
+            vault.damage(0, 7, 1);
+        }
+        return vault;
+    }
+
+    /** Repository 1, without a journal, has its failure at that WRITE from now on. */
+    private static void dueAtWrite(RevisionVault vault, int failing) {
+        for (int write = 1; write <= failing; write++) {
+            Check.due("write " + write, write % 2 == 1 ? vault.begin(1) : vault.commit(1),
+                    write == failing ? -2 : 0);
+        }
+        Check.due("recover", vault.recover(1, 0), 0);
+    }
+
     static void promise10PullHasNoMoreRecordsThanAppend() {
         RevisionVault vault = Check.vaultWith(0, "a", "b", "c");
         vault.begin(1);
